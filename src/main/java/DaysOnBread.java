@@ -846,8 +846,8 @@ public final class DaysOnBread {
             Arrays.fill(table, KINDS * WIDTH, table.length, NO_WAY);
             table[KINDS * WIDTH] = 0;
             for (int kind = KINDS - 1; kind >= 0; kind--) {
-                boolean worthless = payings.number(kind, WORTH) == 0;
-                atMost[kind] = worthless ? 0 : payings.unitsAtMost(kind, within, payings.friends);
+                // what has no worth needs no word: it makes nothing less hard, so none of it is taken
+                atMost[kind] = payings.unitsAtMost(kind, within, payings.friends);
                 fillLevel(kind, tenths);
             }
             if (table[tenths] >= NO_WAY) {

@@ -221,6 +221,35 @@ public final class ModelTest {
             }
         }
 
+        /** Where trying all takes too long: for each kind from the last on, what is least for all that may be left. */
+        int leastByTables(int days, int what) {
+            int[][][] by = new int[7][10 * days + 1][];
+            by[6][0] = new int[7];
+            for (int kind = 5; kind >= 0; kind--) {
+                for (int owed = 0; owed <= 10 * days; owed++) {
+                    int units = -1;
+                    int hardness = 0;
+                    int[] rest = null;
+                    for (int n = 0; n <= caps[kind]; n++) {
+                        int[] others = by[kind + 1][Math.max(0, owed - n * now.pay[kind][0])];
+                        if (others == null) continue;
+                        int hard = others[6] + n * now.pay[kind][1];
+                        if (units < 0 || hard < hardness) {
+                            units = n;
+                            hardness = hard;
+                            rest = others;
+                        }
+                    }
+                    if (units < 0) continue;
+                    by[kind][owed] = rest.clone();
+                    by[kind][owed][kind] = units;
+                    by[kind][owed][6] = hardness;
+                }
+            }
+            int[] first = by[0][10 * days];
+            return first == null ? NONE : first[what];
+        }
+
         int least(int days, int within, int what) {
             if (bad(what, 7)) return no(-2);
             if (days < 0 || within < 1) return no(-4);
@@ -237,7 +266,7 @@ public final class ModelTest {
                 if (caps[kind] > 0) caps[kind] = Math.min(caps[kind], (10 * days + now.pay[kind][0] - 1) / now.pay[kind][0]);
                 all *= caps[kind] + 1;
             }
-            if (all > 200_000) return Integer.MIN_VALUE;
+            if (all > 200_000) return leastByTables(days, what);
             best = null;
             tryUnits(0, 0, 0, 10 * days);
             return best == null ? NONE : best[what];
@@ -473,7 +502,6 @@ public final class ModelTest {
     }
 
     private static void same(int promise, String call, int got, int want) {
-        if (want == Integer.MIN_VALUE) return;
         looked++;
         answered[promise]++;
         if (want >= 0) withAnswer[promise]++;

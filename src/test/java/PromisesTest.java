@@ -124,6 +124,7 @@ public final class PromisesTest {
 
     private static void feed() {
         DaysOnBread x = fresh(2);
+        refused(x, "9 with room for them", x.feed(9, 0), -6, 0);
         due("lowest first", x.feed(4, 0x30343A61L), 4);
         due("read", x.rule(0), 0);
         due("days", x.owes(0, 0, 0), 40);
@@ -135,14 +136,14 @@ public final class PromisesTest {
         due("days", x.ruleOf(0, 1, 2), 45);
         due("only n of them come", x.feed(1, 0x6262L), 1);
         due("to 9", x.feed(8, 0), 9);
-        refused(x, "above 16", x.feed(8, 0), -6, 0);
+        refused(x, "above 16", x.feed(8, 0), -6, 1);
         due("tape stays", x.count(3), 9);
         due("to 16", x.feed(7, 0), 16);
-        refused(x, "full", x.feed(1, 0), -6, 1);
-        refused(x, "9", x.feed(9, 0), -6, 2);
+        refused(x, "full", x.feed(1, 0), -6, 2);
+        refused(x, "9", x.feed(9, 0), -6, 3);
         refused(x, "0", x.feed(0, 0), -4, 0);
         refused(x, "least int", x.feed(Integer.MIN_VALUE, 0), -4, 1);
-        refused(x, "greatest int", x.feed(Integer.MAX_VALUE, 0), -6, 3);
+        refused(x, "greatest int", x.feed(Integer.MAX_VALUE, 0), -6, 4);
         due("tape stays", x.count(3), 16);
     }
 
@@ -496,6 +497,10 @@ public final class PromisesTest {
         due("no more", x.least(5, 2, 4), NONE);
         x.paying(4, 0, 0);
         due("worth 0", x.least(1, 400, 6), NONE);
+        pay(x, 2, 0, 0, 9, 999);
+        pay(x, 3, 5, 7, 9, 999);
+        due("of worth 0 none", x.least(1, 400, 2), 0);
+        due("but of what has worth", x.least(1, 400, 6), 14);
         payNothing(x);
         pay(x, 2, 99, 99, 9, 999);
         due("worth more than owed", x.least(1, 1, 6), 99);
@@ -683,6 +688,17 @@ public final class PromisesTest {
         fraction(z, 2, 1, 15);
         z.over(1, 4, 3, 2);
         fraction(z, 3, 1, 1);
+        DaysOnBread w = fresh(19);
+        w.over(0, 2, 1, 7);
+        w.over(1, 3, 2, 5);
+        w.over(2, 11, 3, 4);
+        fraction(w, 3, 70, 33);
+        w.over(0, 3, 2, 4);
+        fraction(w, 3, 16, 33);
+        w.over(2, 5, 1, 2);
+        w.over(1, 13, 3, 2);
+        fraction(w, 3, 16, 195);
+        fraction(w, 1, 8, 15);
     }
 
     private static void fraction(DaysOnBread x, int kind, int above, int below) {
@@ -897,6 +913,8 @@ public final class PromisesTest {
         due("deed 2, marks 4", x.part(0, 1), 36);
         write(x, 2, "cmr:5");
         due("marks 4 before 12", x.part(2, 0), 36);
+        write(x, 5, "a:1");
+        due("the least of all", x.part(5, 4), 0);
         refused(x, "one twice", x.part(3, 3), -1, 0);
         refused(x, "6", x.part(0, 6), -1, 1);
         refused(x, "6 first", x.part(6, 0), -1, 2);
@@ -974,6 +992,9 @@ public final class PromisesTest {
         x.feasts(7);
         x.friends(5);
         x.over(1, 4, 2, 1);
+        due("a way that came behind it", x.byPutting(2, 1), 8);
+        due("a ring that came behind it", x.over(0, 4, 2, 1), 4);
+        due("a ring of two", x.over(2, 1, 0, 1), 5);
         x.ring();
         type(x, "d:123");
         row(x, "0");
@@ -996,7 +1017,11 @@ public final class PromisesTest {
         due("lean", x.lean(1, -1), 0);
         due("stock", x.paying(5, 3, 1), 7);
         due("friends", x.friends(1), 4);
+        x.undone();
+        x.done(0, 1, false);
+        x.done(2, 0, false);
         due("once more", x.on(), 1);
+        due("found out as then", x.together(1), 20);
         due("mode", x.mode(1, 0), 2);
         due("lean", x.lean(1, -1), 0);
         due("stock", x.paying(5, 3, 1), 7);
@@ -1019,6 +1044,14 @@ public final class PromisesTest {
         x.done(0, 0, false);
         due("one again", x.on(), 1);
         due("refusals stay", x.count(13), 2);
+        write(x, 0, "ab:3");
+        write(x, 0, "a:5");
+        x.image();
+        x.undone();
+        x.done(0, 1, false);
+        due("another deed", x.together(0), 3);
+        x.on();
+        due("the deed as then", x.together(0), 5);
     }
 
     private static void count() {
