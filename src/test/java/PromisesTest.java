@@ -699,6 +699,10 @@ public final class PromisesTest {
         w.over(1, 13, 3, 2);
         fraction(w, 3, 16, 195);
         fraction(w, 1, 8, 15);
+        for (int i = w.count(2); i < 12; i++) {
+            w.over(3, 1, 4, i);
+        }
+        fraction(w, 4, 32, 65);
     }
 
     private static void fraction(DaysOnBread x, int kind, int above, int below) {
@@ -947,6 +951,11 @@ public final class PromisesTest {
         write(x, 3, "bb:2");
         due("of 4", x.kin(4), 0);
         due("of 5, one each", x.kin(5), 0);
+        DaysOnBread y = fresh(27);
+        write(y, 0, "a:0");
+        write(y, 1, "b:1");
+        due("a rule of nothing", y.kin(0), NONE);
+        due("is in no other book", y.kin(1), NONE);
         refused(x, "6", x.kin(6), -1, 0);
         refused(x, "-1", x.kin(-1), -1, 1);
     }
