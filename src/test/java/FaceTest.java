@@ -34,6 +34,7 @@ public final class FaceTest {
     }
 
     public static void main(String[] args) throws IOException {
+        Watch.start();
         face();
         classesInside();
         words();

@@ -712,6 +712,7 @@ public final class ModelTest {
     }
 
     public static void main(String[] args) {
+        Watch.start();
         for (run = 0; run < RUNS; run++) {
             oneRun();
         }

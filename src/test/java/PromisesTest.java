@@ -6,6 +6,7 @@ public final class PromisesTest {
     private static int looked;
 
     public static void main(String[] args) {
+        Watch.start();
         newObject();
         feed();
         rule();
