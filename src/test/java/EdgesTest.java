@@ -39,6 +39,7 @@ public final class EdgesTest {
         promises9To14();
         promises15To21();
         promises22To30();
+        extremes();
         System.out.println(NAMES.size() + " edges, " + wrong + " wrong");
         if (wrong != 0) {
             System.exit(1);
@@ -386,6 +387,7 @@ public final class EdgesTest {
         edge("not in 400", "only(2,9,0,1,999) soonest(360)=400 soonest(361)=-9");
         edge("never", "only(2,0,0,9,999) soonest(1)=-9");
         edge("STOCK does not do", "only(2,10,0,9,20) soonest(20)=3 soonest(21)=-9");
+        edge("STOCK 999 does not do", "only(1,4,0,9,999) soonest(399)=111 soonest(400)=-9");
         edge("what is left of the STOCK", "only(2,10,0,9,10) soonest(10)=2");
         edge("STOCK is not used up", "only(2,10,0,9,10) soonest(10)=2 soonest(10)=2 paying(2,3,0)=10");
         edge("all KINDS on one DAY", "friends(1) soonest(8)=1 soonest(9)=2");
@@ -424,6 +426,9 @@ public final class EdgesTest {
         edge("the FRIENDS that there are stay", "only(4,10,0,0,999) friends(7) needed(2,1)=2 friends(0)=7");
         edge("with what else is paid", "only(4,10,0,0,999) pay(2,10,0,1,2) needed(5,3)=1 needed(6,3)=2");
         edge("on FEASTS, too", "only(4,10,0,0,999) feasts(0xFFFFFFF) needed(3,3)=1");
+        edge("with what may be on FEASTS, again and again", "only(0,10,0,1,999) feasts(1) needed(27,28)=0 needed(28,29)=-9 needed(28,30)=0");
+        edge("with NIGHTS each second DAY", "only(3,10,0,1,999) needed(2,3)=0 needed(2,2)=-9");
+        edge("with NIGHTS that a SHORT bars", "only(3,10,0,1,999) pay(5,10,0,1,999) needed(4,3)=0 needed(5,3)=-9 needed(5,4)=0");
         edge("within 1, when it takes 2", "only(2,10,0,1,999) needed(2,1)=-9 needed(2,2)=0");
         edge("400 within 400", "only(2,10,0,1,999) needed(400,400)=0 needed(400,399)=-9");
         edge("more than 400 are not asked", "only(2,9,0,1,999) needed(360,400)=0 needed(361,400)=-9");
@@ -928,6 +933,7 @@ public final class EdgesTest {
         edge("127", "put(127)=1");
         edge("-129", "put(-129)=-4 count(14)=1 count(4)=0");
         edge("128", "put(128)=-6 count(16)=1 count(4)=0");
+        edge("no number is cut to a byte", "put(265)=-6 put(-247)=-4 put(256)=-6 put(-256)=-4 count(4)=0");
         edge("the least of all", "put(-2147483648)=-4");
         edge("the greatest of all", "put(2147483647)=-6");
         edge("the hundredth", "99*put(0) put(0)=100 count(4)=100");
@@ -969,5 +975,45 @@ public final class EdgesTest {
         edge("another what", "count(-1)=-9 count(6)=-9 count(10)=-9 count(17)=-9");
         edge("the least and the greatest what", "count(-2147483648)=-9 count(2147483647)=-9");
         edge("another what is no refusal", "count(-1) count(6) count(17) count(12)=0 count(11)=0");
+    }
+
+    private static void extremes() {
+        in("The least and the greatest int");
+        edge("rule, BOOK", "rule(-2147483648)=-1 rule(2147483647)=-1 count(11)=2");
+        edge("ruleOf, BOOK", "write(0,a:1) ruleOf(-2147483648,0,0)=-1 ruleOf(2147483647,0,0)=-1 count(11)=2");
+        edge("ruleOf, RULE", "write(0,a:1) ruleOf(0,-2147483648,0)=-1 ruleOf(0,2147483647,0)=-1 count(11)=2");
+        edge("ruleOf, what", "write(0,a:1) ruleOf(0,0,-2147483648)=-2 ruleOf(0,0,2147483647)=-2 count(12)=2");
+        edge("lean, BOOK", "lean(-2147483648,1)=-1 lean(2147483647,1)=-1 count(11)=2");
+        edge("lean, other", "lean(0,-2147483648)=-1 lean(0,2147483647)=-1 count(11)=2");
+        edge("mode, BOOK", "mode(-2147483648,1)=-1 mode(2147483647,1)=-1 count(11)=2");
+        edge("mode, MODE", "mode(0,-2147483648)=-2 mode(0,2147483647)=-2 count(12)=2");
+        edge("owes, BOOK", "owes(-2147483648,0,0)=-1 owes(2147483647,0,0)=-1 count(11)=2");
+        edge("owes, DEED", "owes(0,-2147483648,0)=-1 owes(0,2147483647,0)=-1 count(11)=2");
+        edge("owes, MARKS", "owes(0,0,-2147483648)=-1 owes(0,0,2147483647)=-1 count(11)=2");
+        edge("why, BOOK", "why(-2147483648,0,0)=-1 why(2147483647,0,0)=-1 count(11)=2");
+        edge("why, DEED", "why(0,-2147483648,0)=-1 why(0,2147483647,0)=-1 count(11)=2");
+        edge("why, MARKS", "why(0,0,-2147483648)=-1 why(0,0,2147483647)=-1 count(11)=2");
+        edge("done, DEED", "done(-2147483648,0,true)=-1 done(2147483647,0,true)=-1 count(11)=2");
+        edge("done, MARKS", "done(0,-2147483648,true)=-1 done(0,2147483647,true)=-1 count(11)=2");
+        edge("together, BOOK", "together(-2147483648)=-1 together(2147483647)=-1 count(11)=2");
+        edge("paying, KIND", "paying(-2147483648,0,1)=-1 paying(2147483647,0,1)=-1 count(11)=2");
+        edge("paying, what", "paying(0,-2147483648,1)=-2 paying(0,2147483647,1)=-2 count(12)=2");
+        edge("paying, number", "paying(0,0,-2147483648)=-4 paying(0,0,2147483647)=-6 count(14)=1 count(16)=1");
+        edge("friends, FRIENDS", "friends(-2147483648)=-4 friends(2147483647)=-6 count(14)=1 count(16)=1");
+        edge("least, DAYS", "least(-2147483648,1,0)=-4 least(2147483647,1,0)=-6 count(14)=1 count(16)=1");
+        edge("least, within", "least(1,-2147483648,0)=-4 least(1,2147483647,0)=-6 count(14)=1 count(16)=1");
+        edge("least, what", "least(1,1,-2147483648)=-2 least(1,1,2147483647)=-2 count(12)=2");
+        edge("soonest, DAYS", "soonest(-2147483648)=-4 soonest(2147483647)=-6 count(14)=1 count(16)=1");
+        edge("needed, DAYS", "needed(-2147483648,1)=-4 needed(2147483647,1)=-6 count(14)=1 count(16)=1");
+        edge("needed, within", "needed(1,-2147483648)=-4 needed(1,2147483647)=-6 count(14)=1 count(16)=1");
+        edge("over, from", "over(-2147483648,1,1,1)=-1 over(2147483647,1,1,1)=-1 count(11)=2");
+        edge("over, n", "over(0,-2147483648,1,1)=-4 over(0,2147483647,1,1)=-6 count(14)=1 count(16)=1");
+        edge("over, to", "over(0,1,-2147483648,1)=-1 over(0,1,2147483647,1)=-1 count(11)=2");
+        edge("over, m", "over(0,1,1,-2147483648)=-4 over(0,1,1,2147483647)=-6 count(14)=1 count(16)=1");
+        edge("byPutting, KIND", "byPutting(-2147483648,0)=-1 byPutting(2147483647,0)=-1 count(11)=2");
+        edge("byPutting, part", "byPutting(0,-2147483648)=-2 byPutting(0,2147483647)=-2 count(12)=2");
+        edge("part, one", "part(-2147483648,1)=-1 part(2147483647,1)=-1 count(11)=2");
+        edge("part, other", "part(0,-2147483648)=-1 part(0,2147483647)=-1 count(11)=2");
+        edge("kin, BOOK", "kin(-2147483648)=-1 kin(2147483647)=-1 count(11)=2");
     }
 }
